@@ -23,7 +23,7 @@ final class Run {
         this.sentence = sentence;
     }
 
-    /** One run for a sentence of the document. */
+    /** One run for a sentence of the document, or for a case of it. */
     static void of(Due due, String sentence, String rows) {
         Run run = new Run(due, sentence);
         for (String row : rows.split("[;\n]")) {
